@@ -232,15 +232,15 @@ public final class CopyHeap {
         }
 
         boolean holds(int place) {
-            return place >= 0 && place < used && place < words.length;
+            return place >= 0 && place < used;
         }
 
         int wordAt(int place) {
-            return holds(place) ? words[place] : 0;
+            return place >= 0 && place < words.length ? words[place] : 0;
         }
 
         void setWord(int place, int word) {
-            if (holds(place)) {
+            if (place >= 0 && place < words.length) {
                 words[place] = word;
             }
         }
@@ -284,10 +284,8 @@ public final class CopyHeap {
         }
 
         private void addWord(int word) {
-            if (used >= 0 && used < words.length) {
-                words[used] = word;
-                used++;
-            }
+            setWord(used, word);
+            used++;
         }
 
         /** A value of this half as it is in the other one, to which its object is moved if it was not yet. */
