@@ -7,8 +7,9 @@ import java.util.List;
  * Java objects in a list, and a place is worked out by adding up the sizes ahead of it.
  */
 public final class ModelTest {
-    private static final int CALLS = 512;
-    private static final int RUNS = 400;
+    /** The document promises nothing behind an object's 512th call; looking at the state counts as well. */
+    private static final int MOST_CALLS = 512;
+    private static final int RUNS = 3000;
 
     private static final class Thing {
         final int kind;
@@ -213,21 +214,24 @@ public final class ModelTest {
         }
     }
 
-    private static List<Object> allOf(CopyHeap x) {
-        List<Object> told = new ArrayList<>();
-        for (int what = 0; what < 5; what++) {
-            told.add(x.count(what));
+    /** What the model tells at index i of all(). */
+    private static int ask(CopyHeap x, int i) {
+        if (i < 5) {
+            return x.count(i);
         }
-        for (int register = 0; register < 8; register++) {
-            for (int what = 0; what < 4; what++) {
-                told.add(x.about(register, what));
-            }
+        return i < 37 ? x.about((i - 5) / 4, (i - 5) % 4) : x.look((i - 37) / 2, (i - 37) % 2);
+    }
+
+    /** Compares all that can be seen, or any parts of it when there are too few calls left, and tells the calls. */
+    private static int compareState(int run, CopyHeap x, Model m, int callsLeft) {
+        List<Object> want = m.all();
+        boolean whole = want.size() <= callsLeft;
+        int asked = Math.min(want.size(), callsLeft);
+        for (int n = 0; n < asked; n++) {
+            int i = whole ? n : upTo(want.size());
+            compare(run, "the state at " + i, answerOf(() -> ask(x, i)), want.get(i));
         }
-        for (int k = 0; k < x.count(1); k++) {
-            told.add(x.look(k, 0));
-            told.add(x.look(k, 1));
-        }
-        return told;
+        return asked;
     }
 
     private static void compare(int run, String call, Object got, Object want) {
@@ -273,15 +277,18 @@ public final class ModelTest {
 
     private static void oneRun(int run) {
         boolean small = run % 20 != 0;
-        int words = small ? upTo(120) : anyInt();
+        int words = small ? upTo(1 + upTo(120)) : anyInt();
         int mostFields = small ? 1 + upTo(12) : 200;
         CopyHeap x = new CopyHeap(words);
         Model m = new Model(words);
-        for (int call = 0; call < CALLS && wrong < 20; call++) {
-            oneCall(run, x, m, mostFields);
-            if (small || call % 32 == 31) {
-                compare(run, "the state behind call " + call, allOf(x), m.all());
+        int left = MOST_CALLS;
+        while (left > 0 && wrong < 20) {
+            int calls = Math.min(left, small ? 1 + upTo(120) : 200 + upTo(200));
+            for (int call = 0; call < calls; call++) {
+                oneCall(run, x, m, mostFields);
             }
+            left -= calls;
+            left -= compareState(run, x, m, left);
         }
     }
 

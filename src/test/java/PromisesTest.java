@@ -1,7 +1,10 @@
 import java.util.ArrayList;
 import java.util.List;
 
-/** Each promise by hand: ordinary inputs, the edges that the document names, wrong inputs. */
+/**
+ * Each promise by hand: ordinary inputs, the edges that the document names, wrong inputs. No heap here has
+ * more than 512 calls, behind which the document promises nothing.
+ */
 public final class PromisesTest {
     private interface Call {
         int answer();
@@ -38,16 +41,16 @@ public final class PromisesTest {
         due(call, want ? 1 : 0, () -> asked.getAsBoolean() ? 1 : 0);
     }
 
-    /** The call must throw just this and change nothing that can be seen. */
-    private static void dueThrow(CopyHeap x, String call, Class<? extends RuntimeException> want, Act act) {
+    /** The calls, which all throw, must change nothing that can be seen. */
+    private static void dueNoChange(CopyHeap x, String calls, Act wrongCalls) {
         List<Integer> before = stateOf(x);
-        dueThrowOnly(call, want, act);
+        wrongCalls.run();
         if (!before.equals(stateOf(x))) {
-            fail(call + " threw and changed the state");
+            fail(calls + " threw and changed the state");
         }
     }
 
-    private static void dueThrowOnly(String call, Class<? extends RuntimeException> want, Act act) {
+    private static void dueThrow(String call, Class<? extends RuntimeException> want, Act act) {
         try {
             act.run();
             fail(call + " did not throw " + want.getSimpleName());
@@ -104,7 +107,7 @@ public final class PromisesTest {
             for (int register = 0; register < 8; register++) {
                 dueRegister(x, register, CopyHeap.NONE, 0, CopyHeap.NONE, CopyHeap.NONE);
             }
-            dueThrow(x, "look(0, 0) of a new object", INDEX, () -> x.look(0, 0));
+            dueThrow("look(0, 0) of a new object", INDEX, () -> x.look(0, 0));
         }
         due("NONE", -1, () -> CopyHeap.NONE);
     }
@@ -122,26 +125,36 @@ public final class PromisesTest {
         dueRegister(x, 2, 5, 0, 1, 200);
         dueRegister(x, 3, 206, 0, 0, 200);
         dueCounts(x, 2063, 407, 0, 0, 5);
-        for (int k = 6; k < 206; k++) {
-            dueWord(x, k, 3, 0);
-        }
-        for (int k = 207; k < 407; k++) {
-            dueWord(x, k, 1, 0);
+    }
+
+    private static void makeMostFields() {
+        for (int kind = 0; kind < 2; kind++) {
+            int asked = kind;
+            CopyHeap x = new CopyHeap(200);
+            due("make(0, " + kind + ", 200)", 0, () -> x.make(0, asked, 200));
+            dueWord(x, 0, 0, 400 + kind);
+            for (int k = 1; k <= 200; k++) {
+                dueWord(x, k, kind == 0 ? 1 : 3, 0);
+            }
         }
     }
 
     private static void makeWrong() {
         CopyHeap x = new CopyHeap(0);
         x.make(3, 0, 14);
+        dueNoChange(x, "wrong calls of make", () -> makeWrong(x));
+    }
+
+    private static void makeWrong(CopyHeap x) {
         for (int register : NO_REGISTERS) {
-            dueThrow(x, "make of no register", ARGUMENT, () -> x.make(register, 0, 1));
-            dueThrow(x, "make of no register, without room", ARGUMENT, () -> x.make(register, 0, 100));
+            dueThrow("make of no register", ARGUMENT, () -> x.make(register, 0, 1));
+            dueThrow("make of no register, without room", ARGUMENT, () -> x.make(register, 0, 100));
         }
         for (int kind : new int[] {-1, 2, 3, Integer.MIN_VALUE, Integer.MAX_VALUE}) {
-            dueThrow(x, "make of no kind", ARGUMENT, () -> x.make(0, kind, 1));
+            dueThrow("make of no kind", ARGUMENT, () -> x.make(0, kind, 1));
         }
         for (int fields : new int[] {-1, 201, Integer.MIN_VALUE, Integer.MAX_VALUE}) {
-            dueThrow(x, "make of wrong fields", ARGUMENT, () -> x.make(0, 1, fields));
+            dueThrow("make of wrong fields", ARGUMENT, () -> x.make(0, 1, fields));
         }
     }
 
@@ -149,14 +162,14 @@ public final class PromisesTest {
         CopyHeap x = new CopyHeap(0);
         due("make(0, 0, 15) just fits", 0, () -> x.make(0, 0, 15));
         dueCounts(x, 16, 16, 0, 0, 1);
-        dueThrowOnly("make(1, 0, 0) of a full half", STATE, () -> x.make(1, 0, 0));
+        dueThrow("make(1, 0, 0) of a full half", STATE, () -> x.make(1, 0, 0));
         dueCounts(x, 16, 16, 1, 16, 1);
         dueRegister(x, 1, CopyHeap.NONE, 0, CopyHeap.NONE, CopyHeap.NONE);
         x.number(0, 9);
-        dueThrowOnly("make(0, 0, 16) of more than a half", STATE, () -> x.make(0, 0, 16));
+        dueThrow("make(0, 0, 16) of more than a half", STATE, () -> x.make(0, 0, 16));
         dueCounts(x, 16, 0, 2, 16, 0);
         dueRegister(x, 0, CopyHeap.NONE, 9, CopyHeap.NONE, CopyHeap.NONE);
-        dueThrowOnly("make(0, 1, 200) of an empty half", STATE, () -> x.make(0, 1, 200));
+        dueThrow("make(0, 1, 200) of an empty half", STATE, () -> x.make(0, 1, 200));
         dueCounts(x, 16, 0, 3, 16, 0);
     }
 
@@ -177,7 +190,7 @@ public final class PromisesTest {
         }
         CopyHeap y = new CopyHeap(0);
         y.make(0, 0, 8);
-        dueThrowOnly("make into the register that holds the last reference", STATE, () -> y.make(0, 0, 8));
+        dueThrow("make into the register that holds the last reference", STATE, () -> y.make(0, 0, 8));
         dueRegister(y, 0, 0, 0, 0, 8);
         dueCounts(y, 16, 9, 1, 9, 1);
     }
@@ -199,24 +212,31 @@ public final class PromisesTest {
     }
 
     private static void number() {
-        CopyHeap x = new CopyHeap(0);
         int[][] givenAndKept = {{0, 0}, {5, 5}, {-5, -5}, {1073741823, 1073741823}, {1073741824, -1073741824},
             {1073741825, -1073741823}, {-1073741824, -1073741824}, {-1073741825, 1073741823},
             {Integer.MAX_VALUE, -1}, {Integer.MIN_VALUE, 0}, {Integer.MIN_VALUE + 1, 1}};
-        for (int[] pair : givenAndKept) {
-            for (int register = 0; register < 8; register++) {
-                int asked = register;
+        for (int register = 0; register < 8; register++) {
+            int asked = register;
+            CopyHeap x = new CopyHeap(0);
+            for (int[] pair : givenAndKept) {
                 due("number(" + register + ", " + pair[0] + ")", pair[1], () -> x.number(asked, pair[0]));
                 dueRegister(x, register, CopyHeap.NONE, pair[1], CopyHeap.NONE, CopyHeap.NONE);
             }
         }
+        numberOverReference();
+    }
+
+    private static void numberOverReference() {
+        CopyHeap x = new CopyHeap(0);
         x.make(4, 0, 1);
         due("number over a reference", 7, () -> x.number(4, 7));
         dueRegister(x, 4, CopyHeap.NONE, 7, CopyHeap.NONE, CopyHeap.NONE);
         dueCounts(x, 16, 2, 0, 0, 1);
-        for (int register : NO_REGISTERS) {
-            dueThrow(x, "number of no register", ARGUMENT, () -> x.number(register, 3));
-        }
+        dueNoChange(x, "number of no register", () -> {
+            for (int register : NO_REGISTERS) {
+                dueThrow("number of no register", ARGUMENT, () -> x.number(register, 3));
+            }
+        });
     }
 
     private static void copy() {
@@ -236,10 +256,12 @@ public final class PromisesTest {
         dueWord(x, 1, 1, -8);
         dueBoolean("get(4, 0, 0) sees what was put through the copy", false, () -> x.get(4, 0, 0));
         dueRegister(x, 4, CopyHeap.NONE, -8, CopyHeap.NONE, CopyHeap.NONE);
-        for (int register : NO_REGISTERS) {
-            dueThrow(x, "copy to no register", ARGUMENT, () -> x.copy(register, 0));
-            dueThrow(x, "copy of no register", ARGUMENT, () -> x.copy(0, register));
-        }
+        dueNoChange(x, "copy of no register", () -> {
+            for (int register : NO_REGISTERS) {
+                dueThrow("copy to no register", ARGUMENT, () -> x.copy(register, 0));
+                dueThrow("copy of no register", ARGUMENT, () -> x.copy(0, register));
+            }
+        });
     }
 
     private static void put() {
@@ -260,25 +282,25 @@ public final class PromisesTest {
         dueWord(x, 5, 3, -1073741824);
         dueRegister(x, 0, 0, 0, 0, 2);
         dueRegister(x, 2, CopyHeap.NONE, -1073741824, CopyHeap.NONE, CopyHeap.NONE);
-        putWrong(x);
+        x.make(5, 0, 0);
+        dueNoChange(x, "wrong calls of put", () -> putWrong(x));
     }
 
     private static void putWrong(CopyHeap x) {
         for (int register : NO_REGISTERS) {
-            dueThrow(x, "put to no register", ARGUMENT, () -> x.put(register, 0, 0));
-            dueThrow(x, "put of no register", ARGUMENT, () -> x.put(0, 0, register));
-            dueThrow(x, "put of no register to a number", ARGUMENT, () -> x.put(2, 9, register));
+            dueThrow("put to no register", ARGUMENT, () -> x.put(register, 0, 0));
+            dueThrow("put of no register", ARGUMENT, () -> x.put(0, 0, register));
+            dueThrow("put of no register to a number", ARGUMENT, () -> x.put(2, 9, register));
         }
-        dueThrow(x, "put to a number", STATE, () -> x.put(2, 0, 0));
-        dueThrow(x, "put to a number, no field", STATE, () -> x.put(2, -1, 0));
-        dueThrow(x, "put of a reference to a RAW object", STATE, () -> x.put(1, 0, 0));
-        dueThrow(x, "put of a reference to a RAW object, no field", STATE, () -> x.put(1, 2, 1));
+        dueThrow("put to a number", STATE, () -> x.put(2, 0, 0));
+        dueThrow("put to a number, no field", STATE, () -> x.put(2, -1, 0));
+        dueThrow("put of a reference to a RAW object", STATE, () -> x.put(1, 0, 0));
+        dueThrow("put of a reference to a RAW object, no field", STATE, () -> x.put(1, 2, 1));
         for (int k : new int[] {-1, 2, 3, Integer.MIN_VALUE, Integer.MAX_VALUE}) {
-            dueThrow(x, "put to no field of a PLAIN object", INDEX, () -> x.put(0, k, 1));
-            dueThrow(x, "put to no field of a RAW object", INDEX, () -> x.put(1, k, 2));
+            dueThrow("put to no field of a PLAIN object", INDEX, () -> x.put(0, k, 1));
+            dueThrow("put to no field of a RAW object", INDEX, () -> x.put(1, k, 2));
         }
-        x.make(5, 0, 0);
-        dueThrow(x, "put to an object without fields", INDEX, () -> x.put(5, 0, 2));
+        dueThrow("put to an object without fields", INDEX, () -> x.put(5, 0, 2));
     }
 
     private static void raw() {
@@ -291,14 +313,18 @@ public final class PromisesTest {
         due("raw(1, 0, -3)", Integer.MAX_VALUE, () -> x.raw(1, 0, -3));
         dueWord(x, 4, 3, -3);
         dueWord(x, 5, 3, 1);
+        dueNoChange(x, "wrong calls of raw", () -> rawWrong(x));
+    }
+
+    private static void rawWrong(CopyHeap x) {
         for (int register : NO_REGISTERS) {
-            dueThrow(x, "raw of no register", ARGUMENT, () -> x.raw(register, 0, 1));
+            dueThrow("raw of no register", ARGUMENT, () -> x.raw(register, 0, 1));
         }
-        dueThrow(x, "raw of a number", STATE, () -> x.raw(2, 0, 1));
-        dueThrow(x, "raw of a PLAIN object", STATE, () -> x.raw(0, 0, 1));
-        dueThrow(x, "raw of a PLAIN object, no field", STATE, () -> x.raw(0, 2, 1));
+        dueThrow("raw of a number", STATE, () -> x.raw(2, 0, 1));
+        dueThrow("raw of a PLAIN object", STATE, () -> x.raw(0, 0, 1));
+        dueThrow("raw of a PLAIN object, no field", STATE, () -> x.raw(0, 2, 1));
         for (int k : new int[] {-1, 2, Integer.MIN_VALUE, Integer.MAX_VALUE}) {
-            dueThrow(x, "raw of no field", INDEX, () -> x.raw(1, k, 1));
+            dueThrow("raw of no field", INDEX, () -> x.raw(1, k, 1));
         }
     }
 
@@ -323,22 +349,22 @@ public final class PromisesTest {
             dueRegister(x, 4, CopyHeap.NONE, pair[1], CopyHeap.NONE, CopyHeap.NONE);
             dueWord(x, 6, 3, pair[0]);
         }
-        getWrong(x);
+        dueNoChange(x, "wrong calls of get", () -> getWrong(x));
         dueBoolean("get(0, 0, 0) into its own register", true, () -> x.get(0, 0, 0));
         dueRegister(x, 0, 4, 0, 1, 2);
     }
 
     private static void getWrong(CopyHeap x) {
         for (int register : NO_REGISTERS) {
-            dueThrow(x, "get to no register", ARGUMENT, () -> x.get(register, 0, 0));
-            dueThrow(x, "get to no register from a number", ARGUMENT, () -> x.get(register, 2, 0));
-            dueThrow(x, "get of no register", ARGUMENT, () -> x.get(0, register, 0));
+            dueThrow("get to no register", ARGUMENT, () -> x.get(register, 0, 0));
+            dueThrow("get to no register from a number", ARGUMENT, () -> x.get(register, 2, 0));
+            dueThrow("get of no register", ARGUMENT, () -> x.get(0, register, 0));
         }
-        dueThrow(x, "get of a number", STATE, () -> x.get(0, 2, 0));
-        dueThrow(x, "get of a number, no field", STATE, () -> x.get(0, 2, 9));
+        dueThrow("get of a number", STATE, () -> x.get(0, 2, 0));
+        dueThrow("get of a number, no field", STATE, () -> x.get(0, 2, 9));
         for (int k : new int[] {-1, 3, Integer.MIN_VALUE, Integer.MAX_VALUE}) {
-            dueThrow(x, "get of no field of a PLAIN object", INDEX, () -> x.get(2, 0, k));
-            dueThrow(x, "get of no field of a RAW object", INDEX, () -> x.get(2, 1, k));
+            dueThrow("get of no field of a PLAIN object", INDEX, () -> x.get(2, 0, k));
+            dueThrow("get of no field of a RAW object", INDEX, () -> x.get(2, 1, k));
         }
     }
 
@@ -370,7 +396,7 @@ public final class PromisesTest {
         x.number(7, 0);
         due("collect() of garbage alone", 0, x::collect);
         dueCounts(x, 16, 0, 4, 10, 0);
-        dueThrow(x, "look(0, 1) behind it", INDEX, () -> x.look(0, 1));
+        dueThrow("look(0, 1) behind it", INDEX, () -> x.look(0, 1));
     }
 
     /** A tree whose breadth first order differs from depth first and from the order of making. */
@@ -436,7 +462,7 @@ public final class PromisesTest {
         dueWord(x, 1, 2, 455);
         dueWord(x, 9, 2, 201);
         dueWord(x, 8, 2, 455 + 7 * 201);
-        dueThrowOnly("make(3, 1, 0) of a full half", STATE, () -> x.make(3, 1, 0));
+        dueThrow("make(3, 1, 0) of a full half", STATE, () -> x.make(3, 1, 0));
         dueCounts(x, 2063, 2063, 2, 4126, 11);
     }
 
@@ -448,12 +474,16 @@ public final class PromisesTest {
         dueRegister(x, 6, 0, 0, 1, 4);
         dueRegister(x, 2, 5, 0, 0, 3);
         dueRegister(x, 1, CopyHeap.NONE, -77, CopyHeap.NONE, CopyHeap.NONE);
+        dueNoChange(x, "wrong calls of about", () -> aboutWrong(x));
+    }
+
+    private static void aboutWrong(CopyHeap x) {
         for (int what : new int[] {-1, 4, Integer.MIN_VALUE, Integer.MAX_VALUE}) {
-            dueThrow(x, "about of another what, a reference", INDEX, () -> x.about(6, what));
-            dueThrow(x, "about of another what, a number", INDEX, () -> x.about(1, what));
+            dueThrow("about of another what, a reference", INDEX, () -> x.about(6, what));
+            dueThrow("about of another what, a number", INDEX, () -> x.about(1, what));
             for (int register : NO_REGISTERS) {
-                dueThrow(x, "about of no register and another what", ARGUMENT, () -> x.about(register, what));
-                dueThrow(x, "about of no register", ARGUMENT, () -> x.about(register, 0));
+                dueThrow("about of no register and another what", ARGUMENT, () -> x.about(register, what));
+                dueThrow("about of no register", ARGUMENT, () -> x.about(register, 0));
             }
         }
     }
@@ -480,11 +510,11 @@ public final class PromisesTest {
         dueWord(x, 405, 1, -9);
         dueWord(x, 406, 2, 403);
         for (int k : new int[] {-1, 407, 2015, 2016, 2017, Integer.MIN_VALUE, Integer.MAX_VALUE}) {
-            dueThrow(x, "look at no word", INDEX, () -> x.look(k, 0));
-            dueThrow(x, "look at no word", INDEX, () -> x.look(k, 1));
+            dueThrow("look at no word", INDEX, () -> x.look(k, 0));
+            dueThrow("look at no word", INDEX, () -> x.look(k, 1));
         }
         for (int what : new int[] {-1, 2, Integer.MIN_VALUE, Integer.MAX_VALUE}) {
-            dueThrow(x, "look for another what", INDEX, () -> x.look(0, what));
+            dueThrow("look for another what", INDEX, () -> x.look(0, what));
         }
     }
 
@@ -501,14 +531,17 @@ public final class PromisesTest {
         x.number(0, 0);
         x.make(2, 0, 0);
         dueCounts(x, 20, 16, 2, 20, 2);
-        for (int what : new int[] {-1, 5, Integer.MIN_VALUE, Integer.MAX_VALUE}) {
-            dueThrow(x, "count of another what", INDEX, () -> x.count(what));
-        }
+        dueNoChange(x, "count of another what", () -> {
+            for (int what : new int[] {-1, 5, Integer.MIN_VALUE, Integer.MAX_VALUE}) {
+                dueThrow("count of another what", INDEX, () -> x.count(what));
+            }
+        });
     }
 
     public static void main(String[] args) {
         newObject();
         makeOrdinary();
+        makeMostFields();
         makeWrong();
         makeWithoutRoom();
         makeBehindCollection();
