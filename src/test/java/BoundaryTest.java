@@ -5,8 +5,8 @@ import java.util.regex.Matcher;
 import java.util.regex.Pattern;
 
 /**
- * One test for each sentence of the document that names a boundary: too small, too large, empty, full,
- * a wrap-around, a refused call. A test bears the sentence's own words, and what fails is told under them.
+ * One test for each sentence of the document, above all those that name a boundary: too small, too large,
+ * empty, full, a wrap-around, a refused call. A test bears the sentence's own words, and what fails is told under them.
  *
  * Calls are written as texts: "make(0, 0, 2) = 0" must answer 0, "make(8, 0, 2) throws
  * IllegalArgumentException" must throw just that, and "make(0, 0, 2)" must answer anything.
@@ -238,7 +238,113 @@ public final class BoundaryTest {
         return on(0);
     }
 
+    // ---- What it is
+
+    private static void oneHalfInUse() {
+        on(0, "make(0, 1, 7) = 0", "make(1, 1, 7) = 8", "count(1) = 16", "count(0) = 16",
+            "make(2, 0, 0) throws IllegalStateException", "count(1) = 16", "count(0) = 16")
+            .due("look(15, 0) = 3", "look(16, 0) throws IndexOutOfBoundsException")
+            .due("collect() = 16", "make(2, 0, 0) throws IllegalStateException", "count(0) = 16", "count(1) = 16");
+        Run x = on(5, "make(3, 0, 1) = 0");
+        for (int collections = 1; collections <= 5; collections++) {
+            x.due("collect() = 2").counts(21, 2, collections, 2 * collections, 1).words("first 2", "number 0");
+        }
+    }
+
+    /**
+     * Two roots that share what is below them: by levels that is 0: A (register 2), B (register 5); 1: C, D of A
+     * and E of B; 2: F of D. Depth first would put C ahead of B, and E ahead of D.
+     */
+    private static void reachedBreadthFirst() {
+        Run x = on(20, "make(0, 0, 2) = 0", "make(1, 0, 2) = 3", "make(3, 0, 2) = 6", "make(4, 0, 2) = 9",
+            "make(5, 0, 2) = 12", "make(2, 0, 2) = 15");
+        x.due("put(2, 0, 4)", "put(2, 1, 3)", "put(5, 0, 1)", "put(5, 1, 3)", "put(3, 0, 0)", "put(0, 1, 2)",
+            "put(1, 0, 1)", "put(4, 1, 5)", "number(0, 0)", "number(1, 0)", "number(3, 0)", "number(4, 0)");
+        x.due("collect() = 18").refers(2, 0, 0, 2).refers(5, 3, 0, 2)
+            .words("first 4", "reference 6", "reference 9", "first 4", "reference 12", "reference 9",
+                "first 4", "number 0", "reference 3", "first 4", "reference 15", "number 0",
+                "first 4", "reference 12", "number 0", "first 4", "number 0", "reference 0");
+    }
+
+    private static void eachRegisterIsARoot() {
+        for (int register = 0; register < 8; register++) {
+            int other = (register + 3) % 8;
+            on(0, "make(" + other + ", 1, 1) = 0", "raw(" + other + ", 0, 99) = 0",
+                "make(" + register + ", 0, 1) = 2", "put(" + register + ", 0, " + other + ")",
+                "number(" + other + ", 0)", "collect() = 4").refers(register, 0, 0, 1).words("first 2", "reference 2", "first 3", "raw 99");
+        }
+    }
+
+    /** Garbage ahead of, between and behind what is kept; objects that refer only to each other, or to what is kept. */
+    private static void theRestIsGone() {
+        on(4, "make(0, 1, 1) = 0", "make(1, 0, 2) = 2", "make(0, 0, 1) = 5", "make(2, 0, 1) = 7", "make(3, 0, 1) = 9",
+            "put(2, 0, 3)", "put(3, 0, 2)", "put(0, 0, 1)", "make(4, 1, 3) = 11", "number(0, 0)", "number(2, 0)",
+            "number(3, 0)", "number(4, 0)", "count(4) = 6", "count(1) = 15", "collect() = 3")
+            .counts(20, 3, 1, 3, 1).refers(1, 0, 0, 2).words("first 4", "number 0", "number 0")
+            .due("make(0, 0, 16) = 3").counts(20, 20, 1, 3, 2);
+        on(0, "make(0, 0, 1) = 0", "put(0, 0, 0)", "number(0, 0)", "collect() = 0").counts(16, 0, 1, 0, 0).words();
+    }
+
+    private static void upTo512Calls() {
+        Run makes = on(0, "make(0, 0, 3) = 0");
+        for (int call = 2; call <= 511; call++) {
+            makes.due("make(0, 0, 3) = " + (call <= 4 ? 4 * (call - 1) : 4 + 4 * ((call - 5) % 3)));
+        }
+        makes.due("count(2) = 169");
+        Run collects = on(2047, "make(0, 0, 200) = 0");
+        for (int k = 1; k < 10; k++) {
+            collects.due("make(1, 0, 200) = " + 201 * k, "put(0, " + k + ", 1)");
+        }
+        collects.due("make(2, 0, 52) = 2010");
+        int collections = collects.callsLeft() - 1;
+        for (int k = 0; k < collections; k++) {
+            collects.due("collect() = 2063");
+        }
+        collects.due("count(3) = " + 2063 * collections);
+    }
+
+    private static void heapsStandAlone() {
+        Run x = mixed();
+        Run y = full();
+        Run z = empty().due("make(0, 0, 2) = 0", "number(0, 5)", "collect() = 0");
+        y.due("collect() = 16", "number(6, 1)", "collect() = 7");
+        z.due("make(1, 1, 3) = 0", "raw(1, 2, 4) = 0");
+        x.counts(16, 12, 0, 0, 5);
+        y.counts(16, 7, 2, 23, 1);
+        z.counts(16, 4, 1, 0, 1);
+        sameState("calls on other heaps", x, mixed());
+        sameState("collections of its own", y, full().due("collect() = 16", "number(6, 1)", "collect() = 7"));
+    }
+
     // ---- Terms
+
+    private static void firstWordTells() {
+        for (int fields : new int[] {0, 1, 2, 7, 15}) {
+            for (int kind = 0; kind < 2; kind++) {
+                on(0, "make(4, " + kind + ", " + fields + ") = 0").word(0, "first " + (2 * fields + kind))
+                    .refers(4, 0, kind, fields)
+                    .due("collect() = " + (1 + fields)).word(0, "first " + (2 * fields + kind))
+                    .refers(4, 0, kind, fields);
+            }
+        }
+    }
+
+    private static void plainFieldsAreValues() {
+        on(0, "make(0, 0, 3) = 0", "make(1, 1, 0) = 4", "number(2, -1073741824)", "put(0, 0, 1)", "put(0, 1, 2)",
+            "put(0, 2, 0)").words("first 6", "reference 4", "number -1073741824", "reference 0", "first 1")
+            .due("put(0, 0, 2)", "put(0, 1, 1)").word(1, "number -1073741824").word(2, "reference 4")
+            .due("get(3, 0, 0) = false").isNumber(3, -1073741824)
+            .due("get(3, 0, 1) = true").refers(3, 4, 1, 0);
+    }
+
+    private static void referenceIsFirstWord() {
+        on(0, "make(0, 0, 3) = 0", "make(1, 0, 1) = 4", "make(2, 1, 2) = 6", "put(0, 0, 0)", "put(0, 1, 1)",
+            "put(0, 2, 2)", "put(1, 0, 2)").refers(0, 0, 0, 3).refers(1, 4, 0, 1).refers(2, 6, 1, 2)
+            .words("first 6", "reference 0", "reference 4", "reference 6", "first 2", "reference 6",
+                "first 5", "raw 0", "raw 0")
+            .due("number(0, 0)", "collect() = 5").refers(1, 0, 0, 1).refers(2, 2, 1, 2)
+            .words("first 2", "reference 2", "first 5", "raw 0", "raw 0");
+    }
 
     private static void numbersWrap() {
         for (int[] pair : GIVEN_AND_KEPT) {
@@ -482,25 +588,21 @@ public final class BoundaryTest {
         on(0, "number(0, -1)", "about(0, 0) = -1", "about(0, 1) = -1", "about(0, 2) = -1", "about(0, 3) = -1");
     }
 
-    private static void upTo512Calls() {
-        Run makes = on(0, "make(0, 0, 3) = 0");
-        for (int call = 2; call <= 511; call++) {
-            makes.due("make(0, 0, 3) = " + (call <= 4 ? 4 * (call - 1) : 4 + 4 * ((call - 5) % 3)));
-        }
-        makes.due("count(2) = 169");
-        Run collects = on(2047, "make(0, 0, 200) = 0");
-        for (int k = 1; k < 10; k++) {
-            collects.due("make(1, 0, 200) = " + 201 * k, "put(0, " + k + ", 1)");
-        }
-        collects.due("make(2, 0, 52) = 2010");
-        int collections = collects.callsLeft() - 1;
-        for (int k = 0; k < collections; k++) {
-            collects.due("collect() = 2063");
-        }
-        collects.due("count(3) = " + 2063 * collections);
+    private static void whatItIs() {
+        sentence("What it is", "A heap of words in two halves, of which one is in use", BoundaryTest::oneHalfInUse);
+        sentence("What it is", "what can be reached is moved into the other half, breadth first",
+            BoundaryTest::reachedBreadthFirst);
+        sentence("What it is", "from eight registers", BoundaryTest::eachRegisterIsARoot);
+        sentence("What it is", "and the rest is gone", BoundaryTest::theRestIsGone);
+        sentence("What it is", "An object is used for at most 512 calls", BoundaryTest::upTo512Calls);
+        sentence("Rule 5 of LANGUAGE.md", "No other static state", BoundaryTest::heapsStandAlone);
     }
 
     private static void terms() {
+        sentence("Terms", "a first word, which tells its kind and how many fields it has",
+            BoundaryTest::firstWordTells);
+        sentence("Terms", "of kind 0 (PLAIN) VALUES", BoundaryTest::plainFieldsAreValues);
+        sentence("Terms", "a REFERENCE is the place of an object's first word", BoundaryTest::referenceIsFirstWord);
         sentence("Terms", "NUMBERS of 31 bits (from -2^30 on; others wrap)", BoundaryTest::numbersWrap);
         sentence("Terms", "how many fields it has (0 to 200)", BoundaryTest::noFieldsTo200);
         sentence("Terms", "its fields, one word each", BoundaryTest::oneWordEach);
@@ -526,7 +628,6 @@ public final class BoundaryTest {
         sentence("Terms", "a call that throws changes nothing but as told",
             BoundaryTest::throwChangesNothingButAsTold);
         sentence("Terms", "NONE = -1: None", BoundaryTest::noneIsMinusOne);
-        sentence("What it is", "An object is used for at most 512 calls", BoundaryTest::upTo512Calls);
     }
 
     // ---- Promise 1: a new object
@@ -1010,6 +1111,7 @@ public final class BoundaryTest {
     }
 
     public static void main(String[] args) {
+        whatItIs();
         terms();
         promisesOneToFour();
         promisesFiveToSeven();
